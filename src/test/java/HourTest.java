@@ -6,6 +6,7 @@ public final class HourTest {
         fires();
         highOfNothingCracks();
         healing();
+        healingAsUsual();
         healedCellsMayCrackAgain();
         breakingAtOnce();
         breakingOnAndOn();
@@ -85,6 +86,16 @@ public final class HourTest {
         Check.dueText("a CRACK grows thick too", Check.cell(fair, 0, 0, 0), "14");
         fair.hour(0);
         Check.due("none any more", fair.count(3), 0);
+    }
+
+    private static void healingAsUsual() {
+        IceFair fair = Check.fairOn(3, 3, 0, 0, "");
+        fair.hour(0);
+        fair.sound(0, 0, 2, 2, 98, 99);
+        fair.sound(0, 0, 0, 0, 99, 99);
+        fair.hour(0);
+        Check.dueText("LOW 99", Check.cell(fair, 0, 0, 2), "0");
+        Check.due("LOW 98 is not healed", fair.count(3), 8);
     }
 
     private static void healedCellsMayCrackAgain() {

@@ -6,6 +6,7 @@ public final class LayTest {
         noRow();
         looksLeaveOutWhatIsNotOpen();
         spentAtMoreThanTwentyThousand();
+        justTwentyThousandLooks();
         laysWhatWaitsOnly();
         nothingIsLaidWhileACellGives();
         Check.end();
@@ -91,6 +92,27 @@ public final class LayTest {
             Check.dueText("no STRAIN", Check.cell(fair, i % 10, i / 10, 3), "0");
             Check.dueText("nobody", Check.cell(fair, i % 10, i / 10, 5), "-1");
         }
+    }
+
+    private static void justTwentyThousandLooks() {
+        dueLay(5, 3, new int[][] {{2, 0}}, new int[] {2, 15, 31, 16, 16, 35, 27}, 7, 20000);
+        dueLay(4, 3, new int[][] {}, new int[] {35, 24, 28, 31, 3, 19, 35}, IceFair.NONE, 20000);
+        // The look behind it would find the row, or that there is none.
+        dueLay(6, 5, new int[][] {{5, 1}, {1, 3}}, new int[] {32, 27, 35, 35, 23, 25}, -2, 20001);
+        dueLay(3, 3, new int[][] {}, new int[] {3, 13, 15, 27, 30, 30, 25}, -2, 20001);
+    }
+
+    private static void dueLay(int w, int h, int[][] thin, int[] weights, int due, int looks) {
+        IceFair fair = Check.fairOn(w, h, 12, 12, "");
+        for (int[] at : thin) {
+            fair.sound(at[0], at[1], at[0], at[1], 0, 40);
+        }
+        for (int weight : weights) {
+            fair.booth(weight, false, 0);
+        }
+        Check.due("lay() of " + looks + " LOOKS", fair.lay(), due);
+        Check.due("LOOKS", fair.count(6), looks);
+        Check.due("SET", fair.count(1), Math.max(0, due));
     }
 
     private static void laysWhatWaitsOnly() {

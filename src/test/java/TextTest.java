@@ -93,6 +93,12 @@ public final class TextTest {
         Check.dueFault("x", 1, 0);
         Check.dueFault("bears 1;", 1, 0);
         Check.dueFault("bea 1;", 1, 0);
+        Check.dueFault("bearz 1;", 1, 0);
+        Check.dueFault("beara 1;", 1, 0);
+        Check.dueFault("bear{1;", 1, 4);
+        Check.dueFault("bear`1;", 1, 4);
+        Check.dueFault("bear/1;", 1, 4);
+        Check.dueFault("bear:1;", 1, 4);
         Check.dueFault("Bear 1;", 1, 0);
         Check.dueFault("bEar 1;", 1, 0);
         Check.dueFault("bear 1;;", 1, 7);
