@@ -37,7 +37,8 @@ public final class IceTest {
 
     private static void newIce() {
         IceFair fair = new IceFair();
-        int[][] wrong = {{2, 5}, {5, 2}, {11, 5}, {5, 11}, {0, 0}, {-3, 5}, {Integer.MIN_VALUE, 5}, {5, Integer.MAX_VALUE}};
+        int[][] wrong = {
+            {2, 5}, {5, 2}, {11, 5}, {5, 11}, {0, 0}, {-3, 5}, {Integer.MIN_VALUE, 5}, {5, Integer.MAX_VALUE}};
         fair.sound(0, 0, 4, 4, 7, 8);
         for (int[] sides : wrong) {
             Check.due("ice(" + sides[0] + ", " + sides[1] + ")", fair.ice(sides[0], sides[1]), false);

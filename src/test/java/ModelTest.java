@@ -99,7 +99,8 @@ public final class ModelTest {
                 Check.due(at + "clear", fair.clear(gone), plain.clear(gone));
                 break;
             case 9:
-                int cold = below(30) == 0 ? 10 - below(2) * 20 : below(below(3) == 0 ? 19 : 7) - (below(2) == 0 ? 9 : 3);
+                int mild = below(below(3) == 0 ? 19 : 7) - (below(2) == 0 ? 9 : 3);
+                int cold = below(30) == 0 ? 10 - below(2) * 20 : mild;
                 Check.due(at + "hour", fair.hour(cold), plain.hour(cold));
                 break;
             case 10:

@@ -85,7 +85,8 @@ public final class TextTest {
         Check.dueLines("melt 0 0;apart 0;near 0;heal 1;fee 0 0;", 5);
         Check.dueLines("melt 9 9;apart 9;near 4;heal 99;fee 99 99;bear 999;", 6);
         Check.dueLines("stair 0 0 1;stair 9 9 9;stair 0 9 1;stair 9 0 1;", 4);
-        Check.dueLines("fee 1 1;heal 1;near 1;apart 1;melt 1 1;bear 1;stair 1 1 1;stair 2 1 1;stair 1 2 1;stair 2 2 1;", 10);
+        Check.dueLines("fee 1 1;heal 1;near 1;apart 1;melt 1 1;bear 1;"
+            + "stair 1 1 1;stair 2 1 1;stair 1 2 1;stair 2 2 1;", 10);
     }
 
     private static void tokensThatCannotStand() {
