@@ -906,48 +906,58 @@ public final class IceFair {
         private static final int MOST_STEPS = 2 * MOST_LOOKS + 100;
 
         int looks;
-        private final Booth[] waiting;
-        private final int[] tried;
-        private final boolean[] farFromCracks;
+        private final int[] waiting;
         private int waitingCount;
+        private final int[] openX;
+        private final int[] openY;
+        private final boolean[] farFromCracks;
+        private int openCount;
+        private final int[] tried;
         private boolean allBears;
 
         Laying() {
-            waiting = new Booth[MOST_BOOTHS];
-            tried = new int[MOST_BOOTHS];
+            waiting = new int[MOST_BOOTHS];
+            openX = new int[MOST_CELLS];
+            openY = new int[MOST_CELLS];
             farFromCracks = new boolean[MOST_CELLS];
+            tried = new int[MOST_BOOTHS];
         }
 
         int layAll(Fair fair) {
             looks = 0;
             gatherWaiting(fair);
-            noteIce(fair);
+            gatherOpen(fair);
+            allBears = fair.river.bearsAll(fair.customs.bear());
             if (!findRow(fair)) {
-                liftAll(fair);
+                takeBackAll(fair);
                 return looks > MOST_LOOKS ? SPENT : NONE;
             }
-            for (int turn = 0; turn < waitingCount && turn < MOST_BOOTHS; turn++) {
-                fair.takeFee(waiting[turn]);
-            }
+            takeFees(fair);
             return waitingCount;
         }
 
         private void gatherWaiting(Fair fair) {
             waitingCount = 0;
             for (int i = 0; i < fair.boothCount && i < MOST_BOOTHS; i++) {
-                if (fair.booths[i].state == WAITS && waitingCount < MOST_BOOTHS) {
-                    waiting[waitingCount] = fair.booths[i];
+                if (fair.booths[i].state == WAITS) {
+                    waiting[waitingCount] = i;
                     waitingCount++;
                 }
             }
         }
 
         /** What no booth that is laid can change is found once, not at each look. */
-        private void noteIce(Fair fair) {
-            allBears = fair.river.bearsAll(fair.customs.bear());
-            for (int spot = 0; spot < MOST_CELLS; spot++) {
-                farFromCracks[spot] = !fair.river.hasCrackNearerThan(
-                    fair.customs.near(), spot % MOST_SIDE, spot / MOST_SIDE);
+        private void gatherOpen(Fair fair) {
+            openCount = 0;
+            for (int y = 0; y < fair.river.height; y++) {
+                for (int x = 0; x < fair.river.width; x++) {
+                    if (fair.river.isOpen(x, y) && openCount < MOST_CELLS) {
+                        openX[openCount] = x;
+                        openY[openCount] = y;
+                        farFromCracks[openCount] = !fair.river.hasCrackNearerThan(fair.customs.near(), x, y);
+                        openCount++;
+                    }
+                }
             }
         }
 
@@ -965,7 +975,7 @@ public final class IceFair {
                     if (turn < 0 || looks > MOST_LOOKS) {
                         return false;
                     }
-                    fair.lift(waiting[turn], WAITS);
+                    takeBack(fair, turn);
                 }
             }
             return turn >= waitingCount;
@@ -973,29 +983,47 @@ public final class IceFair {
 
         /** Sets the booth of this turn at the next cell, behind those tried, that it may have. */
         private boolean setNext(Fair fair, int turn) {
-            Booth booth = waiting[turn];
-            for (int spot = Math.max(0, tried[turn] + 1); spot < MOST_CELLS; spot++) {
-                int x = spot % MOST_SIDE;
-                int y = spot / MOST_SIDE;
-                if (!fair.river.isOpen(x, y)) {
+            Booth booth = fair.boothNumbered(waiting[turn]);
+            if (booth == null) {
+                return false;
+            }
+            for (int i = Math.max(0, tried[turn] + 1); i < openCount && i < MOST_CELLS; i++) {
+                // A booth of an earlier turn may have taken it.
+                if (!fair.river.isOpen(openX[i], openY[i])) {
                     continue;
                 }
                 looks++;
                 if (looks > MOST_LOOKS) {
                     return false;
                 }
-                if (allBears && farFromCracks[spot] && fair.suits(booth, x, y)) {
-                    tried[turn] = spot;
-                    fair.put(booth, x, y);
+                if (allBears && farFromCracks[i] && fair.suits(booth, openX[i], openY[i])) {
+                    tried[turn] = i;
+                    fair.put(booth, openX[i], openY[i]);
                     return true;
                 }
             }
             return false;
         }
 
-        private void liftAll(Fair fair) {
+        private void takeBack(Fair fair, int turn) {
+            Booth booth = fair.boothNumbered(waiting[turn]);
+            if (booth != null) {
+                fair.lift(booth, WAITS);
+            }
+        }
+
+        private void takeBackAll(Fair fair) {
             for (int turn = 0; turn < waitingCount && turn < MOST_BOOTHS; turn++) {
-                fair.lift(waiting[turn], WAITS);
+                takeBack(fair, turn);
+            }
+        }
+
+        private void takeFees(Fair fair) {
+            for (int turn = 0; turn < waitingCount && turn < MOST_BOOTHS; turn++) {
+                Booth booth = fair.boothNumbered(waiting[turn]);
+                if (booth != null) {
+                    fair.takeFee(booth);
+                }
             }
         }
     }

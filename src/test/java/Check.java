@@ -98,6 +98,36 @@ final class Check {
         return fair;
     }
 
+    /** What can be asked of a fair on ice of w by h, but for LOOKS: what a refused call must leave as it is. */
+    static String allOf(IceFair fair, int w, int h) {
+        StringBuilder all = new StringBuilder();
+        for (int at = 0; at < w * h; at++) {
+            for (int what = 0; what < 6; what++) {
+                all.append(cell(fair, at % w, at / w, what)).append(' ');
+            }
+        }
+        all.append(cell(fair, w, 0, 0)).append(' ').append(cell(fair, 0, h, 0)).append(" booths ");
+        for (int number = 0; number <= fair.count(0); number++) {
+            for (int what = 0; what < 5; what++) {
+                all.append(look(fair, number, what)).append(' ');
+            }
+        }
+        all.append("counts ");
+        for (int what : new int[] {0, 1, 2, 3, 4, 5, 7, 8}) {
+            all.append(fair.count(what)).append(' ');
+        }
+        return all.append("fault ").append(fair.fault(0)).append(' ').append(fair.fault(1))
+            .append(" soon ").append(fair.soon()).append(" proof ").append(fair.proof()).toString();
+    }
+
+    /** Makes the one cell a CRACK that is as thick as told. */
+    static void crack(IceFair fair, int x, int y, int low, int high) {
+        due("sound", fair.sound(x, y, x, y, 0, 0), true);
+        due("hour(0) sinks none", fair.hour(0), 0);
+        due("sound", fair.sound(x, y, x, y, low, high), true);
+        dueText("a CRACK at " + x + ", " + y, cell(fair, x, y, 2), "1");
+    }
+
     static void end() {
         System.out.println(made + " answers looked at, " + wrong + " wrong");
         if (wrong != 0 || made == 0) {

@@ -6,7 +6,9 @@ public final class ModelTest {
     private static final int MOST_CALLS = 512;
     private static final int ENOUGH_FOR_A_STEP = 60;
     private static final String SIGNS = "abehlmnprtsif 0123456789;;;\nX-";
-    private static final int[] EDGES = {Integer.MIN_VALUE, Integer.MAX_VALUE, -1, 11};
+    private static final int[] EDGES = {
+        Integer.MIN_VALUE, Integer.MIN_VALUE + 1, -100, -11, -10, -9, -2, -1, 0, 1, 2, 3, 4, 5, 6, 8, 9, 10, 11, 50, 51,
+        99, 100, 255, 256, 400, 401, 65536, Integer.MAX_VALUE - 1, Integer.MAX_VALUE};
 
     private final Random chance;
     private final IceFair fair = new IceFair();
@@ -30,8 +32,13 @@ public final class ModelTest {
         return chance.nextInt(bound);
     }
 
+    /** Now and then a number at an edge in place of the usual one. */
+    private int orEdge(int usual) {
+        return below(40) == 0 ? EDGES[below(EDGES.length)] : usual;
+    }
+
     private int place() {
-        return below(40) == 0 ? EDGES[below(EDGES.length)] : below(below(4) == 0 ? 12 : 6) - (below(20) == 0 ? 1 : 0);
+        return orEdge(below(below(4) == 0 ? 12 : 6) - (below(20) == 0 ? 1 : 0));
     }
 
     private void play() {
@@ -71,15 +78,17 @@ public final class ModelTest {
             case 1:
                 if (below(12) == 0) {
                     begin(thick);
+                } else {
+                    iceOfNone(at);
                 }
                 break;
             case 2:
                 int x0 = place();
                 int y0 = place();
-                int x1 = x0 + below(3);
-                int y1 = y0 + below(2);
-                int low = below(3) == 0 ? 0 : below(60);
-                int high = below(4) == 0 ? low : low + below(45) - 2;
+                int x1 = orEdge(x0 + below(3));
+                int y1 = orEdge(y0 + below(2));
+                int low = orEdge(below(3) == 0 ? 0 : below(60));
+                int high = orEdge(below(4) == 0 ? low : low + below(45) - 2);
                 Check.due(at + "sound", fair.sound(x0, y0, x1, y1, low, high), plain.sound(x0, y0, x1, y1, low, high));
                 break;
             case 3:
@@ -89,18 +98,18 @@ public final class ModelTest {
             case 5:
             case 6:
             case 7:
-                int booth = below(11) - (below(30) == 0 ? 1 : 0);
+                int booth = orEdge(below(11));
                 int x = place();
                 int y = place();
                 Check.due(at + "set", fair.set(booth, x, y), plain.set(booth, x, y));
                 break;
             case 8:
-                int gone = below(11) - (below(30) == 0 ? 1 : 0);
+                int gone = orEdge(below(11));
                 Check.due(at + "clear", fair.clear(gone), plain.clear(gone));
                 break;
             case 9:
                 int mild = below(below(3) == 0 ? 19 : 7) - (below(2) == 0 ? 9 : 3);
-                int cold = below(30) == 0 ? 10 - below(2) * 20 : mild;
+                int cold = orEdge(mild);
                 Check.due(at + "hour", fair.hour(cold), plain.hour(cold));
                 break;
             case 10:
@@ -117,10 +126,19 @@ public final class ModelTest {
                 Check.due(at + "proof", fair.proof(), plain.proof());
                 break;
             default:
-                Check.due(at + "fault", fair.fault(call % 4 - 1), plain.fault(call % 4 - 1));
+                int fault = orEdge(below(4) - 1);
+                Check.due(at + "fault", fair.fault(fault), plain.fault(fault));
                 break;
         }
         calls++;
+    }
+
+    private void iceOfNone(String at) {
+        int none = below(2) == 0 ? 2 : 11;
+        int other = EDGES[below(EDGES.length)];
+        int w = below(2) == 0 ? none : other;
+        int h = w == none ? other : none;
+        Check.due(at + "ice", fair.ice(w, h), plain.ice(w, h));
     }
 
     private void ask(int step) {
@@ -129,16 +147,16 @@ public final class ModelTest {
             case 0:
                 int x = place();
                 int y = place();
-                int what = below(8) - 1;
+                int what = orEdge(below(8) - 1);
                 Check.dueText(at + "cell", Check.cell(fair, x, y, what), plain.cell(x, y, what));
                 break;
             case 1:
-                int seen = below(12) - 1;
-                int of = below(7) - 1;
+                int seen = orEdge(below(12) - 1);
+                int of = orEdge(below(7) - 1);
                 Check.dueText(at + "look", Check.look(fair, seen, of), plain.look(seen, of));
                 break;
             default:
-                int which = below(12) - 1;
+                int which = orEdge(below(12) - 1);
                 Check.due(at + "count " + which, fair.count(which), plain.count(which));
                 break;
         }
@@ -147,9 +165,9 @@ public final class ModelTest {
 
     private void booth() {
         calls++;
-        int weight = below(25) == 0 ? 51 - below(2) * 51 : 1 + below(below(2) == 0 ? 50 : 12);
+        int weight = orEdge(1 + below(below(2) == 0 ? 50 : 12));
         boolean fire = below(3) == 0;
-        int crowd = below(4) == 0 ? 0 : below(30) == 0 ? 100 : below(10) == 0 ? below(100) : below(12);
+        int crowd = orEdge(below(4) == 0 ? 0 : below(10) == 0 ? below(100) : below(12));
         Check.due(run + "booth", fair.booth(weight, fire, crowd), plain.booth(weight, fire, crowd));
     }
 
@@ -159,7 +177,7 @@ public final class ModelTest {
             Check.due(run + "feed", fair.feed(five[0], five[1], five[2], five[3], five[4]), plain.feed(five));
         }
         calls += 3;
-        int n = below(12) == 0 ? text.length() + below(30) - 5 : text.length();
+        int n = orEdge(below(12) == 0 ? text.length() + below(30) - 5 : text.length());
         Check.due(run + "customs of " + text, fair.customs(n), plain.customs(n));
         Check.due(run + "fault of " + text, fair.fault(0), plain.fault(0));
         Check.due(run + "place of the fault of " + text, fair.fault(1), plain.fault(1));
