@@ -166,7 +166,7 @@ public final class IceEdgesTest {
     /** "no BOOTHS": former ones keep no fire off, strain nothing, have not to MOVE and are no crowd. */
     private static void boothsOfFormerIceAreGone() {
         IceFair fair = Check.fairOn(5, 5, 90, 90, "near 4;stair 0 0 1;");
-        int[][] former = {{0, 4}, {4, 0}, {2, 2}, {3, 3}, {2, 3}, {0, 1}, {1, 4}, {4, 4}, {3, 1}, {1, 1}};
+        int[][] former = {{0, 4}, {4, 2}, {2, 2}, {3, 3}, {2, 3}, {0, 1}, {1, 4}, {4, 4}, {3, 1}, {1, 1}};
         for (int i = 0; i < former.length; i++) {
             fair.booth(5, true, 9);
             Check.due("set", fair.set(i, former[i][0], former[i][1]), 5);
