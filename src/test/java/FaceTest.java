@@ -23,7 +23,9 @@ public final class FaceTest {
     public static void main(String[] args) throws IOException {
         theMembers();
         theNames();
+        theFields();
         theSource();
+        theLengths();
         Check.end();
     }
 
@@ -69,6 +71,44 @@ public final class FaceTest {
             }
         }
         Check.due("classes", IceFair.class.getDeclaredClasses().length <= 11, true);
+    }
+
+    private static void theFields() {
+        dueFields(IceFair.class);
+        for (Class<?> inside : IceFair.class.getDeclaredClasses()) {
+            dueFields(inside);
+        }
+    }
+
+    private static void dueFields(Class<?> type) {
+        int held = 0;
+        for (Field field : type.getDeclaredFields()) {
+            if (Modifier.isStatic(field.getModifiers())) {
+                Check.due(field + " is final", Modifier.isFinal(field.getModifiers()), true);
+            } else {
+                held++;
+            }
+        }
+        Check.due("fields of " + type, held <= 20, true);
+    }
+
+    /** A method's first and last line stand as far in as one another, so they can be told from the lines between. */
+    private static void theLengths() throws IOException {
+        String[] lines = Files.readString(Path.of("src/main/java/IceFair.java")).split("\n");
+        int methods = 0;
+        for (int i = 0; i < lines.length; i++) {
+            if (!lines[i].matches(" {4,8}[A-Za-z].*\\).*\\{")) {
+                continue;
+            }
+            String end = " ".repeat(lines[i].length() - lines[i].stripLeading().length()) + "}";
+            int last = i + 1;
+            while (last < lines.length && !lines[last].equals(end)) {
+                last++;
+            }
+            methods++;
+            Check.due("lines of " + lines[i].strip(), last < lines.length && last - i < 60, true);
+        }
+        Check.due("methods found", methods > 80, true);
     }
 
     private static void theSource() throws IOException {
